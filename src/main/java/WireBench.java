@@ -353,8 +353,8 @@ public final class WireBench {
         // Where its bytes begin in the ring.
         private int start = 0;
 
+        /** All but when it is due: the copies of a frame differ in that. */
         private void copyFrom(Arrival other) {
-            due = other.due;
             net = other.net;
             station = other.station;
             goal = other.goal;

@@ -26,6 +26,7 @@ public final class PromisesTest {
         byteAtAfterMuchFeeding();
         underWay();
         roomForBothOrNeither();
+        roomForTheLastTwo();
         fated();
         puts();
         Checks.end();
@@ -171,6 +172,14 @@ public final class PromisesTest {
             arrives("first net", x, 0, number);
         }
         Checks.due("no more", false, x::next);
+        x.link(1, true);
+        for (int i = 100; i < 120; i++) {
+            x.put(1, 0, 1, i);
+        }
+        x.pass(3);
+        for (int i = 100; i < 120; i++) {
+            arrives("room that was lost and taken is used again", x, 1, i);
+        }
     }
 
     private static void fates() {
@@ -618,6 +627,14 @@ public final class PromisesTest {
             arrives("what was put on the other net", x, 1, number);
         }
         Checks.due("no more", false, x::next);
+    }
+
+    private static void roomForTheLastTwo() {
+        WireBench x = bench(100, 10);
+        fill(x, 510);
+        x.fates(0, 0b10, 1);
+        x.put(0, 0, 1, 1);
+        Checks.due("both had room", 512, x::underWay);
     }
 
     private static void fated() {

@@ -6,8 +6,14 @@ final class Checks {
 
     private static int wrong = 0;
     private static int looked = 0;
+    private static String sentence = "";
 
     private Checks() {
+    }
+
+    /** The document's sentence that the checks from here on look at. */
+    static void sentence(String words) {
+        sentence = "'" + words + "': ";
     }
 
     /** What a call answers, or throws.Name of the exception that it throws. */
@@ -41,7 +47,7 @@ final class Checks {
             return true;
         }
         wrong++;
-        System.out.println(what + " answered " + got + ", due is " + want);
+        System.out.println(sentence + what + " answered " + got + ", due is " + want);
         return false;
     }
 

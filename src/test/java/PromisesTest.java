@@ -13,6 +13,7 @@ public final class PromisesTest {
         feed();
         putUncut();
         putCut();
+        putCutIntoMany();
         putCutsWhereTheSizesSay();
         putWrong();
         putOnANetThatIsDown();
@@ -23,7 +24,6 @@ public final class PromisesTest {
         nextTakesEarlierPutsFirst();
         arrival();
         byteAt();
-        byteAtAfterMuchFeeding();
         underWay();
         roomForBothOrNeither();
         roomForTheLastTwo();
@@ -32,28 +32,7 @@ public final class PromisesTest {
         Checks.end();
     }
 
-    private static WireBench bench(int largest, int delay) {
-        WireBench x = new WireBench();
-        x.net(largest, delay);
-        return x;
-    }
-
-    /** Feeds bytes that count up from 'first', wrapping behind 255. */
-    private static void feedBytes(WireBench x, int first, int count) {
-        int value = first;
-        int left = count;
-        while (left > 0) {
-            int n = Math.min(8, left);
-            long bytes = 0;
-            for (int i = 0; i < n; i++) {
-                bytes = bytes << 8 | (value++ & 255);
-            }
-            x.feed(bytes, n);
-            left -= n;
-        }
-    }
-
-    private static void piece(String what, WireBench x, int from, int whole, int size, int first) {
+    private static void piece(String what, Bench x, int from, int whole, int size, int first) {
         Checks.due(what + ": next", true, x::next);
         Checks.due(what + ": from", from, () -> x.arrival(4));
         Checks.due(what + ": whole", whole, () -> x.arrival(5));
@@ -66,14 +45,14 @@ public final class PromisesTest {
         Checks.badIndex(what + ": byte -1", () -> x.byteAt(-1));
     }
 
-    private static void arrives(String what, WireBench x, int net, int number) {
+    private static void arrives(String what, Bench x, int net, int number) {
         Checks.due(what + ": next", true, x::next);
         Checks.due(what + ": net", net, () -> x.arrival(0));
         Checks.due(what + ": number", number, () -> x.arrival(3));
     }
 
     private static void aNewObject() {
-        WireBench x = new WireBench();
+        Bench x = new Bench();
         Checks.due("NONE", -1, () -> WireBench.NONE);
         Checks.due("new: underWay", 0, x::underWay);
         Checks.due("new: next", false, x::next);
@@ -83,12 +62,12 @@ public final class PromisesTest {
         Checks.badState("new: arrival(0)", () -> x.arrival(0));
         Checks.badState("new: byteAt(0)", () -> x.byteAt(0));
         Checks.due("new: net", 0, () -> x.net(100, 1));
-        WireBench other = new WireBench();
+        Bench other = new Bench();
         Checks.badArgument("a second object shares no net", () -> other.puts(0));
     }
 
     private static void net() {
-        WireBench x = new WireBench();
+        Bench x = new Bench();
         Checks.badArgument("net(99, 1)", () -> x.net(99, 1));
         Checks.badArgument("net(1501, 1)", () -> x.net(1501, 1));
         Checks.badArgument("net(100, 0)", () -> x.net(100, 0));
@@ -113,7 +92,7 @@ public final class PromisesTest {
     }
 
     private static void link() {
-        WireBench x = bench(100, 5);
+        Bench x = Bench.with(100, 5);
         x.net(100, 5);
         for (int wrong : new int[] {Integer.MIN_VALUE, -1, 2, 24, Integer.MAX_VALUE}) {
             Checks.badArgument("link(wrong, true)", () -> x.link(wrong, true));
@@ -143,8 +122,8 @@ public final class PromisesTest {
     }
 
     private static void linkLosesWhatIsDue() {
-        WireBench x = bench(100, 5);
-        feedBytes(x, 1, 3);
+        Bench x = Bench.with(100, 5);
+        x.feedBytes(1, 3);
         x.put(0, 2, 3, 1);
         x.put(0, 2, 3, 2);
         x.pass(10);
@@ -157,7 +136,7 @@ public final class PromisesTest {
     }
 
     private static void linkKeepsTheOrderOfTheOthers() {
-        WireBench x = bench(100, 3);
+        Bench x = Bench.with(100, 3);
         x.net(100, 3);
         x.net(100, 2);
         for (int i = 0; i < 12; i++) {
@@ -183,7 +162,7 @@ public final class PromisesTest {
     }
 
     private static void fates() {
-        WireBench x = bench(100, 5);
+        Bench x = Bench.with(100, 5);
         Checks.badArgument("fates of no net", () -> x.fates(1, 0, 1));
         Checks.badArgument("fates of net -1", () -> x.fates(-1, 0, 1));
         Checks.badArgument("0 fates", () -> x.fates(0, 0, 0));
@@ -214,7 +193,7 @@ public final class PromisesTest {
     }
 
     private static void fatesAreARing() {
-        WireBench x = bench(100, 1);
+        Bench x = Bench.with(100, 1);
         long lostThenNot = 0x1111111111111111L;
         Checks.due("32 fates", 32, () -> x.fates(0, lostThenNot, 32));
         Checks.due("64 fates", 64, () -> x.fates(0, lostThenNot, 32));
@@ -251,7 +230,7 @@ public final class PromisesTest {
     }
 
     private static void feed() {
-        WireBench x = bench(1500, 1);
+        Bench x = Bench.with(1500, 1);
         Checks.badArgument("feed 0", () -> x.feed(1, 0));
         Checks.badArgument("feed 9", () -> x.feed(1, 9));
         for (int wrong : WRONG_INTS) {
@@ -270,7 +249,7 @@ public final class PromisesTest {
             int at = i;
             Checks.due("byte " + i, bytes[i], () -> x.byteAt(at));
         }
-        feedBytes(x, 0, 1472);
+        x.feedBytes(0, 1472);
         Checks.due("1473 and 7 are 1480", 1480, () -> x.feed(0, 7));
         Checks.badState("1481", () -> x.feed(0, 1));
         Checks.badArgument("the argument comes first", () -> x.feed(0, 9));
@@ -280,14 +259,14 @@ public final class PromisesTest {
         Checks.due("all are there", 1480, () -> x.arrival(6));
         Checks.due("the first", 9, () -> x.byteAt(0));
         Checks.due("the last counted one", 1471 & 255, () -> x.byteAt(1472));
-        feedBytes(x, 0, 1479);
+        x.feedBytes(0, 1479);
         Checks.badState("2 more", () -> x.feed(0x0707, 2));
         Checks.due("1 more: nothing was fed before", 1480, () -> x.feed(0x08, 1));
     }
 
     private static void putUncut() {
-        WireBench x = bench(100, 4);
-        feedBytes(x, 200, 80);
+        Bench x = Bench.with(100, 4);
+        x.feedBytes(200, 80);
         Checks.due("80 and 20 are not more than 100", 0, () -> x.put(0, 0, 1, Integer.MIN_VALUE));
         Checks.due("an empty one", 0, () -> x.put(0, 7, -1, Integer.MAX_VALUE));
         Checks.due("two frames", 2, () -> x.puts(0));
@@ -301,10 +280,10 @@ public final class PromisesTest {
     }
 
     private static void putCut() {
-        WireBench x = bench(100, 4);
-        feedBytes(x, 7, 81);
+        Bench x = Bench.with(100, 4);
+        x.feedBytes(7, 81);
         Checks.due("81 and 20 are more than 100", 2, () -> x.put(0, 0, 1, 1));
-        feedBytes(x, 50, 160);
+        x.feedBytes(50, 160);
         Checks.due("160 are two of 80", 2, () -> x.put(0, 3, 1, 2));
         Checks.due("four frames", 4, () -> x.puts(0));
         Checks.due("all due", 4, () -> x.pass(4));
@@ -317,7 +296,11 @@ public final class PromisesTest {
         Checks.due("goal", 1, () -> x.arrival(2));
         Checks.due("number", 2, () -> x.arrival(3));
         Checks.due("no more", false, x::next);
-        feedBytes(x, 0, 1480);
+    }
+
+    private static void putCutIntoMany() {
+        Bench x = Bench.with(100, 4);
+        x.feedBytes(0, 1480);
         Checks.due("1480 by 80", 19, () -> x.put(0, 0, 1, 3));
         Checks.due("pass", 19, () -> x.pass(4));
         for (int i = 0; i < 19; i++) {
@@ -338,8 +321,8 @@ public final class PromisesTest {
         };
         for (int[] one : cases) {
             String what = one[1] + " bytes on a net for " + one[0];
-            WireBench x = bench(one[0], 1);
-            feedBytes(x, 0, one[1]);
+            Bench x = Bench.with(one[0], 1);
+            x.feedBytes(0, one[1]);
             Checks.due(what, one[2], () -> x.put(0, 0, 1, 1));
             int frames = Math.max(1, one[2]);
             Checks.due(what + ": frames", frames, () -> x.pass(1));
@@ -353,7 +336,7 @@ public final class PromisesTest {
     }
 
     private static void putWrong() {
-        WireBench x = bench(100, 1);
+        Bench x = Bench.with(100, 1);
         x.feed(0x0102, 2);
         x.fates(0, 0, 1);
         Checks.badArgument("net 1", () -> x.put(1, 0, 1, 1));
@@ -381,10 +364,10 @@ public final class PromisesTest {
     }
 
     private static void putOnANetThatIsDown() {
-        WireBench x = bench(100, 1);
+        Bench x = Bench.with(100, 1);
         x.fates(0, 0, 2);
         x.link(0, false);
-        feedBytes(x, 0, 81);
+        x.feedBytes(0, 81);
         Checks.due("it is cut all the same", 2, () -> x.put(0, 0, 1, 1));
         Checks.due("both frames were put", 2, () -> x.puts(0));
         Checks.due("both are lost", 0, x::underWay);
@@ -395,9 +378,9 @@ public final class PromisesTest {
     }
 
     private static void eachPieceMeetsItsOwnFate() {
-        WireBench x = bench(100, 5);
+        Bench x = Bench.with(100, 5);
         x.fates(0, 0b11_10_01_00, 4);
-        feedBytes(x, 0, 330);
+        x.feedBytes(0, 330);
         Checks.due("cut", 5, () -> x.put(0, 0, 1, 1));
         Checks.due("each took a fate", 0, () -> x.fated(0));
         Checks.due("at 5", 3, () -> x.pass(5));
@@ -412,7 +395,7 @@ public final class PromisesTest {
     }
 
     private static void pass() {
-        WireBench x = bench(100, 50);
+        Bench x = Bench.with(100, 50);
         for (int wrong : new int[] {Integer.MIN_VALUE, -1, 1001, Integer.MAX_VALUE}) {
             Checks.badArgument("pass(" + wrong + ")", () -> x.pass(wrong));
         }
@@ -429,9 +412,9 @@ public final class PromisesTest {
         Checks.due("both were", 0, () -> x.pass(1000));
     }
 
-    /** Needs more than the 512 calls that an object is promised for: there is no shorter way. */
     private static void passToTheLastTick() {
-        WireBench x = bench(100, 1);
+        Bench x = Bench.beyondItsPromise();
+        x.net(100, 1);
         for (int i = 0; i < 999; i++) {
             x.pass(1000);
         }
@@ -446,7 +429,7 @@ public final class PromisesTest {
     }
 
     private static void next() {
-        WireBench x = bench(100, 2);
+        Bench x = Bench.with(100, 2);
         Checks.due("nothing under way", false, x::next);
         x.put(0, 0, 1, 1);
         Checks.due("not due", false, x::next);
@@ -466,7 +449,7 @@ public final class PromisesTest {
     }
 
     private static void nextTakesEarlierPutsFirst() {
-        WireBench x = bench(100, 1);
+        Bench x = Bench.with(100, 1);
         x.net(100, 3);
         x.net(100, 4);
         x.fates(0, 0b11_10, 2);
@@ -490,7 +473,7 @@ public final class PromisesTest {
     }
 
     private static void arrival() {
-        WireBench x = bench(100, 1);
+        Bench x = Bench.with(100, 1);
         x.net(100, 2);
         for (int wrong : new int[] {Integer.MIN_VALUE, -1, 7, Integer.MAX_VALUE}) {
             Checks.badArgument("the argument comes first", () -> x.arrival(wrong));
@@ -499,7 +482,7 @@ public final class PromisesTest {
             int what = i;
             Checks.badState("none was taken", () -> x.arrival(what));
         }
-        feedBytes(x, 1, 83);
+        x.feedBytes(1, 83);
         x.put(1, 6, 5, -12345);
         x.pass(2);
         x.next();
@@ -524,7 +507,7 @@ public final class PromisesTest {
     }
 
     private static void byteAt() {
-        WireBench x = bench(100, 1);
+        Bench x = Bench.with(100, 1);
         Checks.badState("none was taken", () -> x.byteAt(0));
         Checks.badState("the state comes first", () -> x.byteAt(-1));
         Checks.badState("the state comes first", () -> x.byteAt(Integer.MAX_VALUE));
@@ -552,24 +535,8 @@ public final class PromisesTest {
         Checks.due("taking does", 2, () -> x.byteAt(1));
     }
 
-    /** All but a few of an object's 512 calls feed it: no byte under way is written over. */
-    private static void byteAtAfterMuchFeeding() {
-        WireBench x = bench(1500, 50);
-        x.fates(0, 3, 1);
-        feedBytes(x, 0, 1480);
-        x.put(0, 0, 1, 1);
-        feedBytes(x, 60, 1480);
-        x.put(0, 0, 1, 2);
-        feedBytes(x, 120, 1080);
-        x.put(0, 0, 1, 3);
-        Checks.due("all due", 3, () -> x.pass(200));
-        piece("the second", x, 0, 1480, 1480, 60);
-        piece("the third", x, 0, 1080, 1080, 120);
-        piece("the first", x, 0, 1480, 1480, 0);
-    }
-
     private static void underWay() {
-        WireBench x = bench(100, 1);
+        Bench x = Bench.with(100, 1);
         x.fates(0, 0b10_01_00, 3);
         int[] due = {1, 1, 3, 4};
         for (int i = 0; i < 4; i++) {
@@ -582,23 +549,11 @@ public final class PromisesTest {
         Checks.due("the taken one does not", 3, x::underWay);
     }
 
-    private static void fill(WireBench x, int count) {
-        for (int i = 0; i < count / 2; i++) {
-            if (i % 32 == 0) {
-                x.fates(0, 0xAAAAAAAAAAAAAAAAL, Math.min(32, count / 2 - i));
-            }
-            x.put(0, 0, 1, i);
-        }
-        if (count % 2 == 1) {
-            x.put(0, 0, 1, -1);
-        }
-        Checks.due("filled", count, x::underWay);
-    }
-
     private static void roomForBothOrNeither() {
-        WireBench x = bench(100, 10);
+        Bench x = Bench.with(100, 10);
         x.net(100, 10);
-        fill(x, 511);
+        x.fill(0, 511);
+        Checks.due("filled", 511, x::underWay);
         x.fates(0, 0b10, 1);
         Checks.due("a copied one", 0, () -> x.put(0, 0, 1, 1));
         Checks.due("has no room", 511, x::underWay);
@@ -630,15 +585,16 @@ public final class PromisesTest {
     }
 
     private static void roomForTheLastTwo() {
-        WireBench x = bench(100, 10);
-        fill(x, 510);
+        Bench x = Bench.with(100, 10);
+        x.fill(0, 510);
+        Checks.due("filled", 510, x::underWay);
         x.fates(0, 0b10, 1);
         x.put(0, 0, 1, 1);
         Checks.due("both had room", 512, x::underWay);
     }
 
     private static void fated() {
-        WireBench x = bench(100, 1);
+        Bench x = Bench.with(100, 1);
         x.net(100, 1);
         for (int wrong : new int[] {Integer.MIN_VALUE, -1, 2, 24, Integer.MAX_VALUE}) {
             Checks.badArgument("fated(" + wrong + ")", () -> x.fated(wrong));
@@ -655,14 +611,14 @@ public final class PromisesTest {
         Checks.due("down", 2, () -> x.fated(0));
         x.put(0, 0, 1, 1);
         Checks.due("put, being down", 2, () -> x.fated(0));
-        feedBytes(x, 0, 240);
+        x.feedBytes(0, 240);
         x.link(0, true);
         x.put(0, 0, 1, 1);
         Checks.due("three pieces, two fates", 0, () -> x.fated(0));
     }
 
     private static void puts() {
-        WireBench x = bench(100, 1);
+        Bench x = Bench.with(100, 1);
         x.net(100, 1);
         for (int wrong : new int[] {Integer.MIN_VALUE, -1, 2, 24, Integer.MAX_VALUE}) {
             Checks.badArgument("puts(" + wrong + ")", () -> x.puts(wrong));
@@ -675,7 +631,7 @@ public final class PromisesTest {
             Checks.due("one a frame, whatever its fate", count, () -> x.puts(0));
         }
         Checks.due("each net has its own", 0, () -> x.puts(1));
-        feedBytes(x, 0, 240);
+        x.feedBytes(0, 240);
         x.put(0, 0, 1, 5);
         Checks.due("one a piece", 7, () -> x.puts(0));
         x.link(0, false);

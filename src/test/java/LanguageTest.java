@@ -1,4 +1,7 @@
 import java.io.IOException;
+import java.lang.reflect.Field;
+import java.lang.reflect.Method;
+import java.lang.reflect.Modifier;
 import java.nio.file.Files;
 import java.nio.file.Path;
 import java.util.List;
@@ -7,10 +10,13 @@ import java.util.TreeSet;
 import java.util.regex.Matcher;
 import java.util.regex.Pattern;
 
-/** Those rules of LANGUAGE.md that a look at the program's text can tell. */
+/** Those rules of LANGUAGE.md that a look at the program's text and at its classes can tell. */
 public final class LanguageTest {
     private static final Path SOURCE = Path.of("src/main/java/WireBench.java");
     private static final int LONGEST_METHOD = 60;
+    private static final int MOST_PARAMETERS = 7;
+    private static final int MOST_CLASSES = 12;
+    private static final int MOST_FIELDS = 20;
 
     // What the rules forbid, or allow only in forms that this program does not need.
     private static final List<String> FORBIDDEN = List.of("\\bpackage\\b", "\\bimport\\b", "->",
@@ -31,6 +37,9 @@ public final class LanguageTest {
         throwsOnlyWrittenTexts(code);
         hidesAllButItsFace(code);
         methodsStayShort(code);
+        usesNoOtherLibrary(code);
+        makesOnlyItsOwn(code);
+        staysSmall();
         Checks.end();
     }
 
@@ -85,5 +94,60 @@ public final class LanguageTest {
                 Checks.same(lines[begun].trim() + " is short", "true", String.valueOf(isShort));
             }
         }
+    }
+
+    /** Rule 4: of the library, this program needs one function. */
+    private static void usesNoOtherLibrary(String code) {
+        Set<String> used = new TreeSet<>();
+        Matcher matcher = Pattern.compile("\\b[A-Z]\\w*[a-z]\\w*\\.\\w+").matcher(code);
+        while (matcher.find()) {
+            used.add(matcher.group());
+        }
+        Checks.same("functions of the library", "[Math.min]", used.toString());
+    }
+
+    /** Rules 3 and 6: own classes, rows of them and of bytes, and exceptions. */
+    private static void makesOnlyItsOwn(String code) {
+        Set<String> made = new TreeSet<>();
+        Matcher matcher = Pattern.compile("\\bnew (\\w+[\\[(])").matcher(code);
+        while (matcher.find()) {
+            made.add(matcher.group(1));
+        }
+        Checks.same("what is made", "[Arrival(, Arrival[, IllegalArgumentException(, "
+                + "IllegalStateException(, IndexOutOfBoundsException(, Net(, Net[, byte[]",
+                made.toString());
+    }
+
+    /** Rule 11 (parameters, classes, fields beside constants), and rules 1, 2 and 5. */
+    private static void staysSmall() {
+        Class<?>[] inside = WireBench.class.getDeclaredClasses();
+        atMost("classes", MOST_CLASSES, 1 + inside.length);
+        looksAt(WireBench.class);
+        for (Class<?> one : inside) {
+            boolean isStatic = Modifier.isStatic(one.getModifiers());
+            Checks.same(one + " is static", "true", String.valueOf(isStatic));
+            looksAt(one);
+        }
+    }
+
+    private static void looksAt(Class<?> one) {
+        int fields = 0;
+        for (Field field : one.getDeclaredFields()) {
+            if (!Modifier.isStatic(field.getModifiers())) {
+                fields++;
+            } else {
+                boolean constant = Modifier.isFinal(field.getModifiers())
+                        && field.getType() == int.class;
+                Checks.same(field + " is a constant", "true", String.valueOf(constant));
+            }
+        }
+        atMost("fields of " + one, MOST_FIELDS, fields);
+        for (Method method : one.getDeclaredMethods()) {
+            atMost("parameters of " + method, MOST_PARAMETERS, method.getParameterCount());
+        }
+    }
+
+    private static void atMost(String what, int most, int count) {
+        Checks.same(what + ", " + count, "true", String.valueOf(count <= most));
     }
 }

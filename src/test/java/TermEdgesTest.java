@@ -1,6 +1,7 @@
 /**
- * Each sentence of the document's "Terms" (and what stands before them) that names an edge: at
- * the edge and on both sides of it.
+ * Each sentence of the document's "Terms", and how often an object is used: where it names an
+ * edge, at the edge and on both sides of it. That all memory is made at first is MemoryTest's,
+ * and what is said of exceptions RefusalsTest's.
  */
 public final class TermEdgesTest {
     private static final int LEAST = Integer.MIN_VALUE;
@@ -42,6 +43,7 @@ public final class TermEdgesTest {
         roomForSomePieces();
         roomComesBack();
         downLosesAll();
+        takenOneByOne();
         earlierTimesFirst();
         sameTimePutEarlierFirst();
         firstBeforeItsCopy();
@@ -667,6 +669,31 @@ public final class TermEdgesTest {
             Checks.due(what + ": number", number, () -> x.arrival(3));
         }
         Checks.due(what + ": no more", false, x::next);
+    }
+
+    private static void takenOneByOne() {
+        Checks.sentence("Arrivals are taken one by one as soon as they are due");
+        Bench x = Bench.with(100, 3);
+        for (int number = 1; number <= 3; number++) {
+            x.putEmpty(0, number);
+        }
+        x.pass(1);
+        x.putEmpty(0, 4);
+        Checks.due("none is due a tick before", 0, () -> x.pass(1));
+        Checks.due("none is taken a tick before", false, x::next);
+        Checks.due("three are due", 3, () -> x.pass(1));
+        for (int number = 1; number <= 3; number++) {
+            int left = 3 - number;
+            Checks.due("taken as soon as due", true, x::next);
+            Checks.due("in turn", number, () -> x.arrival(3));
+            Checks.due("one by one", left + 1, x::underWay);
+            Checks.due("those that are due still", left, () -> x.pass(0));
+        }
+        Checks.due("the fourth is not due", false, x::next);
+        x.pass(1);
+        Checks.due("then it is", true, x::next);
+        Checks.due("the fourth", 4, () -> x.arrival(3));
+        Checks.due("none is left", 0, x::underWay);
     }
 
     private static void earlierTimesFirst() {

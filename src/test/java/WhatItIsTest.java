@@ -83,15 +83,22 @@ public final class WhatItIsTest {
 
     private static void whatIsOnANetThatFailsIsLost() {
         Checks.sentence("what is on a net that fails is lost");
-        Bench x = Bench.with(100, 5);
-        x.net(100, 5);
-        x.putEmpty(0, 1);
-        x.putEmpty(1, 2);
-        Checks.due("the net fails", 1, () -> x.link(0, false));
-        x.link(0, true);
-        x.putEmpty(0, 3);
-        x.pass(1000);
-        Checks.due("what was on the other, or put later", "2 3 ", () -> numbers(x));
+        for (int failing = 0; failing < 3; failing++) {
+            int net = failing;
+            Bench x = Bench.with(100, 5);
+            x.net(100, 5);
+            x.net(100, 5);
+            for (int number = 0; number < 3; number++) {
+                x.putEmpty(number, number);
+            }
+            Checks.due("the net fails", 1, () -> x.link(net, false));
+            x.putEmpty(net, 3);
+            x.link(net, true);
+            x.putEmpty(net, 4);
+            x.pass(1000);
+            String[] due = {"1 2 4 ", "0 2 4 ", "0 1 4 "};
+            Checks.due("what was on the others, or put later", due[net], () -> numbers(x));
+        }
     }
 
     private static void objectsShareNothing() {
@@ -103,10 +110,10 @@ public final class WhatItIsTest {
         Checks.badArgument("no net", () -> other.puts(0));
         other.net(100, 5);
         Checks.due("no fate", 0, () -> other.fated(0));
+        Checks.due("nothing was fed", 2, () -> other.feed(0x0908, 2));
         one.put(0, 0, 1, 1);
         Checks.due("nothing was put", 0, () -> other.puts(0));
         Checks.due("nothing is under way", 0, other::underWay);
-        Checks.due("nothing was fed", 2, () -> other.feed(0x0908, 2));
         other.put(0, 2, 3, 2);
         Checks.due("time goes by for one", 1, () -> one.pass(5));
         Checks.due("not for the other", 0, () -> other.pass(0));
